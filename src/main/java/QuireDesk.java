@@ -143,12 +143,17 @@ public final class QuireDesk {
         if (r == null) {
             return NONE;
         }
-        return reckoner.total(r);
+        reckoner.load(r);
+        return reckoner.total();
     }
 
     public boolean pick(int row, long k) {
         Row r = rowOf(row);
-        if (r == null || k < 0 || k >= reckoner.total(r) || !reckoner.chooseNth(k)) {
+        if (r == null) {
+            return false;
+        }
+        reckoner.load(r);
+        if (k < 0 || k >= reckoner.total() || !reckoner.chooseNth(k)) {
             return false;
         }
         current.layOut(r, reckoner);
@@ -157,7 +162,11 @@ public final class QuireDesk {
 
     public int fewest(int row) {
         Row r = rowOf(row);
-        if (r == null || reckoner.total(r) <= 0 || !reckoner.chooseFewest()) {
+        if (r == null) {
+            return NONE;
+        }
+        reckoner.load(r);
+        if (reckoner.total() <= 0 || !reckoner.chooseFewest()) {
             return NONE;
         }
         current.layOut(r, reckoner);
@@ -166,10 +175,11 @@ public final class QuireDesk {
 
     public int why(int row) {
         Row r = rowOf(row);
-        if (r == null || reckoner.total(r) > 0) {
+        if (r == null) {
             return NONE;
         }
-        return reckoner.firstStuck(r);
+        reckoner.load(r);
+        return reckoner.total() > 0 ? NONE : reckoner.firstStuck(r);
     }
 
     public int folding(int what) {
@@ -507,6 +517,10 @@ public final class QuireDesk {
 
     /** What is known of the THINGS of a ROW that HANG, numbered among themselves. */
     private static final class Leaves {
+        private static final int LOOSE = 0;
+        private static final int RUNS_ON = 1;
+        private static final int CLASHES = 2;
+
         int count = 0;
         final int[] letters = new int[MOST_THINGS];
         final int[] numbers = new int[MOST_THINGS];
@@ -516,6 +530,8 @@ public final class QuireDesk {
         final int[] nexts = new int[MOST_THINGS];
         final int[] waters = new int[MOST_THINGS];
         final int[] sides = new int[MOST_THINGS];
+        /** Whether it can be right behind the leaf ahead of it: LOOSE, RUNS_ON or CLASHES. */
+        final int[] ties = new int[MOST_THINGS];
         int lastSpotted = NONE;
         private int sizes = 0;
         private int signed = 0;
@@ -563,6 +579,10 @@ public final class QuireDesk {
                 }
                 spots[leaf] = together(spots[leaf], spotOf(row.markOf(i + 1, MARK_PAGE), first));
             }
+            ties[leaf] = LOOSE;
+            if (leaf > 0 && nexts[leaf - 1] != 0 && heads[leaf] != 0) {
+                ties[leaf] = nexts[leaf - 1] == heads[leaf] ? RUNS_ON : CLASHES;
+            }
         }
 
         private static int spotOf(int page, int first) {
@@ -589,12 +609,12 @@ public final class QuireDesk {
 
         /** Whether it is of weight that a leaf is right behind the one ahead of it. */
         boolean joins(int leaf) {
-            return leaf > 0 && leaf < count && nexts[leaf - 1] != 0 && heads[leaf] != 0;
+            return leaf >= 0 && leaf < count && ties[leaf] != LOOSE;
         }
 
         /** Whether a leaf can't be right behind the one ahead of it, by the CATCH of that. */
         boolean clashes(int leaf) {
-            return joins(leaf) && nexts[leaf - 1] != heads[leaf];
+            return leaf >= 0 && leaf < count && ties[leaf] == CLASHES;
         }
 
         boolean mayBeAt(int leaf, int p) {
@@ -717,10 +737,9 @@ public final class QuireDesk {
             seats[p] = leaf;
             nexts[p] = leaf + 1;
             aheads[p] = together(aheads[p - 1], leaves.aheadBy(leaf, p));
-            return aheads[p] != NEVER && leaves.mayBeAt(leaf, p) && agreesWithLaid(leaf, p);
-        }
-
-        private boolean agreesWithLaid(int leaf, int p) {
+            if (aheads[p] == NEVER || !leaves.mayBeAt(leaf, p)) {
+                return false;
+            }
             if (p > 1 && seats[p - 1] != GHOST && leaves.clashes(leaf)) {
                 return false;
             }
@@ -763,7 +782,7 @@ public final class QuireDesk {
         private Row loaded = null;
         /** How many times a ROW was loaded: what bests has of another load counts no more. */
         private int loads = 0;
-        /** For each first leaf its groups of lays; how many, NONE if that is not known. */
+        /** For each first leaf its groups of lays, and how many they are. */
         private final int[] groups = new int[MOST_THINGS * MOST_LAYS];
         private final int[] groupCounts = new int[MOST_THINGS];
         private final int[] tally = new int[SORTS];
@@ -774,17 +793,22 @@ public final class QuireDesk {
         final int[] chosenMasks = new int[MOST_QUIRES];
         int chosen = 0;
 
-        /** How many FOLDINGS of a ROW AGREE; other calls speak of this ROW then. */
-        long total(Row row) {
-            if (row != loaded || row.changed) {
-                loaded = row;
-                row.changed = false;
-                loads++;
-                leaves.load(row);
-                for (int i = 0; i < MOST_THINGS; i++) {
-                    groupCounts[i] = NONE;
-                }
+        /** Makes ready for a ROW, of which all other calls speak then. */
+        void load(Row row) {
+            if (row == loaded && !row.changed) {
+                return;
             }
+            loaded = row;
+            row.changed = false;
+            loads++;
+            leaves.load(row);
+            for (int leaf = 0; leaf < leaves.count; leaf++) {
+                groupLays(leaf);
+            }
+        }
+
+        /** How many FOLDINGS AGREE; the other calls want that this has been asked. */
+        long total() {
             return leaves.count == 0 ? 0 : countFrom(0, 0, 0, false);
         }
 
@@ -832,7 +856,7 @@ public final class QuireDesk {
 
         private void reckon(int state, int q, int leaf, int ghosts, boolean joined) {
             int from = leaf * MOST_LAYS;
-            int to = from + groupsOf(leaf);
+            int to = from + groupCounts[leaf];
             int reach = leaves.reach(leaf, q);
             boolean cut = joined && leaves.clashes(leaf);
             long sum = 0;
@@ -857,27 +881,21 @@ public final class QuireDesk {
             bests[state] = loads * LOAD + best;
         }
 
-        /** How many groups there are of lays of a QUIRE with a leaf as its first one. */
-        private int groupsOf(int leaf) {
-            if (leaf < 0 || leaf >= MOST_THINGS) {
-                return 0;
+        /** Finds the groups of lays of a QUIRE that has a leaf as its first one. */
+        private void groupLays(int leaf) {
+            groupCounts[leaf] = 0;
+            for (int sort = 0; sort < SORTS; sort++) {
+                tally[sort] = 0;
             }
-            if (groupCounts[leaf] == NONE) {
-                groupCounts[leaf] = 0;
-                for (int sort = 0; sort < SORTS; sort++) {
-                    tally[sort] = 0;
-                }
-                lays.beginWhole(leaf);
-                for (int i = 0; i < MOST_LAYS && lays.advance(); i++) {
-                    addLay(leaf);
-                }
-                for (int sort = 0; sort < SORTS; sort++) {
-                    if (tally[sort] > 0) {
-                        addGroup(leaf, sort, ANY, tally[sort]);
-                    }
+            lays.beginWhole(leaf);
+            for (int i = 0; i < MOST_LAYS && lays.advance(); i++) {
+                addLay(leaf);
+            }
+            for (int sort = 0; sort < SORTS; sort++) {
+                if (tally[sort] > 0) {
+                    addGroup(leaf, sort, ANY, tally[sort]);
                 }
             }
-            return groupCounts[leaf];
         }
 
         /** Lays that must be at some PAGE are few, and each is a group of its own. */
@@ -914,7 +932,7 @@ public final class QuireDesk {
             groupCounts[leaf] = k + 1;
         }
 
-        /** Chooses the lays of the k-th FOLDING (total() was asked); false if there is none. */
+        /** Chooses the lays of the k-th FOLDING; false if there is none. */
         boolean chooseNth(long k) {
             long left = k;
             int leaf = 0;
@@ -940,7 +958,7 @@ public final class QuireDesk {
             return leaf >= leaves.count;
         }
 
-        /** Chooses the first with the fewest GHOSTS (total() was asked); false if there is none. */
+        /** Chooses the first with the fewest GHOSTS; false if there is none. */
         boolean chooseFewest() {
             int leaf = 0;
             int ghosts = 0;
@@ -991,7 +1009,7 @@ public final class QuireDesk {
             chosen = q + 1;
         }
 
-        /** The least THING up to which no BEGINNING AGREES, else how many (total() was asked). */
+        /** The least THING up to which no BEGINNING AGREES, else how many. */
         int firstStuck(Row row) {
             int leaf = NONE;
             for (int i = 0; i < row.count; i++) {
@@ -1330,7 +1348,7 @@ public final class QuireDesk {
         /** How many QUIRES from q on are of its size and have nothing to tell. */
         private static int plainRun(Folding f, int q) {
             int n = 0;
-            while (q + n < MOST_QUIRES && f.hasQuire(q + n) && f.sizes[q + n] == f.sizes[q] && isPlain(f, q + n)) {
+            while (q + n < MOST_QUIRES && isPlain(f, q + n) && f.sizes[q + n] == f.sizes[q]) {
                 n++;
             }
             return n;
@@ -1480,7 +1498,7 @@ public final class QuireDesk {
                 return false;
             }
             if (latest == 0) {
-                into.start(first, 0);
+                into.letter = first;
             }
             latest = last;
             for (int q = first; q <= last; q++) {
