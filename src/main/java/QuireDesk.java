@@ -600,7 +600,7 @@ public final class QuireDesk {
         /** How many from the first one on may be in QUIRE q by their LETTERS. */
         int reach(int first, int q) {
             int n = 0;
-            while (n < MOST_PLACES && first + n < count
+            while (n < MOST_PLACES && first >= 0 && first + n < count
                     && (letters[first + n] == 0 || letters[first + n] == letter + q)) {
                 n++;
             }
@@ -1134,7 +1134,7 @@ public final class QuireDesk {
 
         /** All that does not HANG from i on comes too: where the next one that HANGS is. */
         private int addLoose(int[] from, int count, int i) {
-            int k = i;
+            int k = Math.max(i, 0);
             while (k < count && k < from.length && !isHanging(from[k])) {
                 addThing(from[k]);
                 k++;

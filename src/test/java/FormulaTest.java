@@ -18,7 +18,8 @@ public final class FormulaTest {
     private static void writing() {
         String[] same = {"A2", "A2(-1)", "ZZ8", "A2 B2", "A-C2", "A-H2", "A2 B-D4 E4(s1) F-H4",
             "Y-BB2", "A4(p0,g0,k0,-1,c2,k2,s3,g3,k3,p4)", "A2 B4 C2", "A2(g2) B2(p1)",
-            "A8(-5,-6,-7,-8)", "A4(c1,c4)", "A-C8 D6", "A2(k1,k1)"};
+            "A8(-5,-6,-7,-8)", "A4(c1,c4)", "A-C8 D6", "A2(k1,k1)", "A2(p0) B2 C2", "A2(p0) B-D2",
+            "A2 B2 C2(p2)"};
         for (String text : same) {
             QuireDesk d = new QuireDesk();
             Check.is("read " + text, Check.read(d, text) > 0, true);
@@ -46,6 +47,25 @@ public final class FormulaTest {
         Check.is("write again", d.write(), 6);
         Check.is("out is new", d.out(0), 'B');
         longest();
+        shorterThanBefore();
+    }
+
+    /** Nothing is left of a longer FOLDING. */
+    private static void shorterThanBefore() {
+        QuireDesk d = new QuireDesk();
+        Check.read(d, "A8(g1,k2,p8) B4 C2(c1)");
+        Check.formula(d);
+        Check.read(d, "A2");
+        Check.is("formula", Check.formula(d), "A2");
+        Check.is("thing 2", d.thing(2, 0), NONE);
+        Check.is("thing 4", d.thing(4, 0), NONE);
+        Check.is("size 1", d.size(1), NONE);
+        Check.is("place 3", d.place(0, 3), NONE);
+        Check.is("ghosts", d.folding(2), 0);
+        Check.read(d, "A4");
+        Check.read(d, "A2(s2)");
+        Check.is("formula", Check.formula(d), "A2(s2)");
+        Check.is("thing 2", d.thing(2, 0), NONE);
     }
 
     /** 8 QUIRES, 32 GHOSTS, 30 THINGS of which each has an ITEM. */

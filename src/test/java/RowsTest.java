@@ -66,6 +66,7 @@ public final class RowsTest {
         Check.is("put the 31st", d.put(5, 0, 1), NONE);
         Check.is("put the 31st behind", d.put(5, 30, 1), NONE);
         Check.is("still 30", d.about(5, 0), 30);
+        Check.is("all that hang", d.about(5, 1), 27);
         Check.is("other rows are empty", d.about(4, 0), 0);
     }
 
@@ -90,6 +91,10 @@ public final class RowsTest {
             Check.is("gone the first", d.gone(0, 0), n);
         }
         Check.is("gone of none", d.gone(0, 0), NONE);
+        Check.things(d, 1, "TL");
+        Check.is("one hangs", d.about(1, 1), 1);
+        d.gone(1, 1);
+        Check.is("none hangs", d.about(1, 1), 0);
     }
 
     private static void marking() {
@@ -140,6 +145,15 @@ public final class RowsTest {
             }
         }
         Check.is("never more", d.tear(0, 0, 5), 0);
+        Check.things(d, 0, "LL");
+        for (int what = 0; what < 7; what++) {
+            d.mark(0, 0, what, 1);
+            d.mark(0, 2, what, 1);
+        }
+        d.tear(0, 1, 0);
+        for (int what = 0; what < 7; what++) {
+            Check.is("others are whole", d.look(0, 2, what), 1);
+        }
     }
 
     private static void looking() {

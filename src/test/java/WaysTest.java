@@ -9,6 +9,7 @@ public final class WaysTest {
         wrongArguments();
         unmarked();
         eightQuires();
+        farthestPage();
         onlyLoose();
         longRows();
         changesCount();
@@ -99,6 +100,22 @@ public final class WaysTest {
         d.rule(0, 4, 39);
         d.pick(0, 15);
         Check.is("last of 16", Check.formula(d), "QQ2(-1) RR-YY2 ZZ2(p2)");
+    }
+
+    /** Seven QUIRES of 8 with 4 GHOSTS each, and a pair behind 56 PLACES. */
+    private static void farthestPage() {
+        QuireDesk d = new QuireDesk();
+        Check.things(d, 0, "LLLLLLLLLLLLLLLLLLLLLLLLLLLLLL");
+        d.rule(0, 2, 9);
+        d.rule(0, 5, 1);
+        d.mark(0, 28, 1, 1);
+        d.mark(0, 28, 2, 113);
+        Check.is("ways of it", d.ways(0), 70L * 70 * 70 * 70 * 70 * 70 * 70);
+        Check.is("fewest of it", d.fewest(0), 28);
+        Check.is("page of the last", d.where(7, 2, 0), 115);
+        d.mark(0, 28, 2, 115);
+        Check.is("farther can't be", d.ways(0), 0);
+        Check.is("why", d.why(0), 28);
     }
 
     private static void onlyLoose() {
