@@ -153,7 +153,7 @@ public final class QuireDesk {
             return false;
         }
         reckoner.load(r);
-        if (k < 0 || k >= reckoner.total() || !reckoner.chooseNth(k)) {
+        if (k < 0 || k >= reckoner.total() || !reckoner.chooseWay(k, false)) {
             return false;
         }
         current.layOut(r, reckoner);
@@ -166,7 +166,7 @@ public final class QuireDesk {
             return NONE;
         }
         reckoner.load(r);
-        if (reckoner.total() <= 0 || !reckoner.chooseFewest()) {
+        if (reckoner.total() <= 0 || !reckoner.chooseWay(0, true)) {
             return NONE;
         }
         current.layOut(r, reckoner);
@@ -932,8 +932,8 @@ public final class QuireDesk {
             groupCounts[leaf] = k + 1;
         }
 
-        /** Chooses the lays of the k-th FOLDING; false if there is none. */
-        boolean chooseNth(long k) {
+        /** Chooses the k-th FOLDING, or (k 0) the first with the fewest GHOSTS; false if none. */
+        boolean chooseWay(long k, boolean fewest) {
             long left = k;
             int leaf = 0;
             int ghosts = 0;
@@ -941,36 +941,15 @@ public final class QuireDesk {
             chosen = 0;
             for (int q = 0; q < MOST_QUIRES && leaf < leaves.count; q++) {
                 boolean found = false;
+                int least = leastFrom(q, leaf, ghosts, joined);
                 steps.beginWhole(leaf);
                 for (int i = 0; i < MOST_LAYS && !found && steps.advance(); i++) {
                     long n = countBehind(q, leaf, ghosts, joined);
+                    if (fewest && n > 0 && leastBehind(q, leaf, ghosts) != least) {
+                        n = 0;
+                    }
                     found = left < n;
                     left -= found ? 0 : n;
-                }
-                if (!found) {
-                    return false;
-                }
-                choose(q);
-                leaf += steps.things;
-                ghosts += steps.ghosts;
-                joined = steps.endsWithLeaf();
-            }
-            return leaf >= leaves.count;
-        }
-
-        /** Chooses the first with the fewest GHOSTS; false if there is none. */
-        boolean chooseFewest() {
-            int leaf = 0;
-            int ghosts = 0;
-            boolean joined = false;
-            chosen = 0;
-            for (int q = 0; q < MOST_QUIRES && leaf < leaves.count; q++) {
-                boolean found = false;
-                int want = leastFrom(q, leaf, ghosts, joined);
-                steps.beginWhole(leaf);
-                for (int i = 0; i < MOST_LAYS && !found && steps.advance(); i++) {
-                    found = countBehind(q, leaf, ghosts, joined) > 0
-                            && leastBehind(q, leaf, ghosts) == want - steps.ghosts;
                 }
                 if (!found) {
                     return false;
@@ -998,9 +977,11 @@ public final class QuireDesk {
             return countFrom(q + 1, leaf + steps.things, lost, steps.endsWithLeaf());
         }
 
+        /** The fewest GHOSTS from QUIRE q on with the lay that steps is at. */
         private int leastBehind(int q, int leaf, int ghosts) {
             int lost = ghosts + steps.ghosts;
-            return leastFrom(q + 1, leaf + steps.things, lost, steps.endsWithLeaf());
+            int more = leastFrom(q + 1, leaf + steps.things, lost, steps.endsWithLeaf());
+            return steps.ghosts + more;
         }
 
         private void choose(int q) {
