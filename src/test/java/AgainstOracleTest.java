@@ -100,18 +100,22 @@ public final class AgainstOracleTest {
     }
 
     private static void compare(Oracle o, Random r, String name) {
-        QuireDesk d = new QuireDesk();
         int row = r.nextInt(6);
-        o.into(d, row);
+        QuireDesk d = deskOf(o, row);
         List<Oracle.Fold> due = o.foldings();
+        Counter counter = new Counter(o);
+        Check.is(name + " counter", counter.ways(), due.size());
+        Check.is(name + " counter why", counter.why(), o.why());
         Check.is(name + " ways", d.ways(row), due.size());
         Check.is(name + " pick none", d.pick(row, due.size()), false);
         Check.is(name + " why", d.why(row), o.why());
         int most = Math.min(due.size(), 12);
         for (int k = 0; k < most; k++) {
             int at = k < 4 ? k : k < 6 ? due.size() - 1 - (k - 4) : r.nextInt(due.size());
+            d = deskOf(o, row);
             Check.is(name + " pick " + at, d.pick(row, at), true);
             same(o, d, due.get(at), name + " pick " + at);
+            Check.is(name + " counter pick", Oracle.order(counter.pick(at), due.get(at)), 0);
         }
         Oracle.Fold fewest = null;
         for (Oracle.Fold f : due) {
@@ -119,11 +123,22 @@ public final class AgainstOracleTest {
                 fewest = f;
             }
         }
+        d = deskOf(o, row);
         Check.is(name + " fewest", d.fewest(row), fewest == null ? -1 : fewest.ghosts());
         if (fewest != null) {
             same(o, d, fewest, name + " fewest");
+            Check.is(name + " counter fewest", Oracle.order(counter.fewest(), fewest), 0);
+            d = deskOf(o, row);
+            d.fewest(row);
             readBack(o, d, fewest, name);
         }
+    }
+
+    /** An object is promised for 512 calls: a new one for each FOLDING that is looked at. */
+    private static QuireDesk deskOf(Oracle o, int row) {
+        QuireDesk d = new QuireDesk();
+        o.into(d, row);
+        return d;
     }
 
     private static void same(Oracle o, QuireDesk d, Oracle.Fold f, String name) {

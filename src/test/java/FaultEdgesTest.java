@@ -253,7 +253,7 @@ public final class FaultEdgesTest {
         return s.toString();
     }
 
-    private static String items(Random r, int size, boolean first) {
+    static String items(Random r, int size, boolean first) {
         StringBuilder s = new StringBuilder();
         int often = 1 + r.nextInt(4);
         for (int p = first ? 0 : 1; p <= size; p++) {
