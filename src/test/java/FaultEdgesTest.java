@@ -17,6 +17,7 @@ public final class FaultEdgesTest {
         shortTexts("A-", "ABJ-2( )", 4);
         shortTexts("ZZ2 ", "AZ-2", 4);
         shortTexts("A-G2 H", "I-2 H", 5);
+        shortTexts("A2 B2 C2 D2 E2 F2 G2 H2", "I-2 HJ", 4);
         shortTexts("A8(-1,-2,-3,-", "4578-s,)", 6);
         shortTexts("A-C8 D", "4681(pc,) E", 5);
         slips();
@@ -162,6 +163,13 @@ public final class FaultEdgesTest {
         faulty("A-I2", 4, 2);
         sound("A2 B2 C2 D2 E2 F2 G2 H2", 16);
         faulty("A2 B2 C2 D2 E2 F2 G2 H2 I2", 4, 24);
+        String eight = "A2 B2 C2 D2 E2 F2 G2 H2";
+        faulty(eight + " ", 1, 24);
+        faulty(eight + "  x", 1, 25);
+        faulty(eight + " J2", 1, 24);
+        faulty(eight + " H2", 2, 24);
+        faulty(eight + " K2", 2, 24);
+        faulty(eight + "   I", 4, 26);
         faulty("A-H2 I", 4, 5);
         faulty("A-H2 II2", 2, 5);
         faulty("A-H2 I-K2", 4, 5);

@@ -13,18 +13,24 @@ public final class RobustTest {
     private static long elements = 0;
 
     public static void main(String[] args) throws Exception {
-        Random r = new Random(99);
-        for (int n = 0; n < 400; n++) {
-            QuireDesk d = new QuireDesk();
-            for (int i = 0; i < 512; i++) {
-                call(d, r, n % 4 == 0);
-            }
-            for (int row = 0; row < 6; row++) {
-                asNew(d, row);
+        for (int seed = 0; seed < 400; seed++) {
+            used(seed, 512);
+            for (int row = 0; row < 3; row++) {
+                asNew(used(seed, 200), row);
             }
         }
         room();
         Check.end();
+    }
+
+    /** A desk behind a run of calls. */
+    private static QuireDesk used(int seed, int calls) {
+        Random r = new Random(seed);
+        QuireDesk d = new QuireDesk();
+        for (int i = 0; i < calls; i++) {
+            call(d, r, seed % 4 == 0);
+        }
+        return d;
     }
 
     private static int number(Random r, boolean wild) {
@@ -77,7 +83,8 @@ public final class RobustTest {
     /** A ROW is reckoned as the same ROW of a new desk is. */
     private static void asNew(QuireDesk d, int row) {
         QuireDesk fresh = new QuireDesk();
-        for (int i = 0; i < d.about(row, 0); i++) {
+        int things = d.about(row, 0);
+        for (int i = 0; i < things; i++) {
             fresh.put(0, i, d.look(row, i, QuireDesk.NONE));
             for (int m = 0; m < 7; m++) {
                 fresh.mark(0, i, m, d.look(row, i, m));
@@ -88,8 +95,9 @@ public final class RobustTest {
         }
         Check.is("why as new", d.why(row), fresh.why(0));
         Check.is("ways as new", d.ways(row), fresh.ways(0));
-        Check.is("fewest as new", d.fewest(row), fresh.fewest(0));
-        if (d.ways(row) > 0) {
+        int fewest = d.fewest(row);
+        Check.is("fewest as new", fewest, fresh.fewest(0));
+        if (fewest != QuireDesk.NONE) {
             Check.is("formula as new", Check.formula(d), Check.formula(fresh));
         }
     }

@@ -135,8 +135,7 @@ public final class WaysTest {
         Random r = new Random(7);
         for (int n = 0; n < 60; n++) {
             Oracle o = longRow(r);
-            QuireDesk d = new QuireDesk();
-            o.into(d, 0);
+            QuireDesk d = deskOf(o);
             long ways = d.ways(0);
             Check.is("there is a way", ways > 0, true);
             Check.is("pick behind the last", d.pick(0, ways), false);
@@ -147,6 +146,7 @@ public final class WaysTest {
                 if (at >= ways) {
                     break;
                 }
+                d = deskOf(o);
                 Check.is("pick", d.pick(0, at), true);
                 Oracle.Fold f = Oracle.of(d);
                 Check.is("pick agrees", o.agrees(f, o.things.size()), true);
@@ -155,9 +155,11 @@ public final class WaysTest {
                 least = Math.min(least, f.ghosts());
                 before = f;
             }
+            d = deskOf(o);
             d.pick(0, ways - 1);
             Oracle.Fold end = Oracle.of(d);
             Check.is("the last is behind", Oracle.order(before, end) <= 0, true);
+            d = deskOf(o);
             int few = d.fewest(0);
             Oracle.Fold f = Oracle.of(d);
             Check.is("fewest is few", few <= least, true);
@@ -165,6 +167,13 @@ public final class WaysTest {
             Check.is("fewest agrees", o.agrees(f, o.things.size()), true);
             Check.is("why", d.why(0), NONE);
         }
+    }
+
+    /** An object is promised for 512 calls: a new one for each FOLDING that is looked at. */
+    private static QuireDesk deskOf(Oracle o) {
+        QuireDesk d = new QuireDesk();
+        o.into(d, 0);
+        return d;
     }
 
     /** A book of eight QUIRES with leaves lost and some of its true MARKS. */
