@@ -650,6 +650,8 @@ public final class QuireDesk {
      * ORDER. First PLACES that do not agree are left together with all lays that begin so.
      */
     private static final class Lays {
+        private static final int MOST_STEPS = 1000;
+
         private final Leaves leaves;
         private int first = 0;
         /** The leaf that ends an open lay; NONE: all PLACES are laid. */
@@ -686,7 +688,8 @@ public final class QuireDesk {
 
         /** Goes to the next lay; false if there is none. */
         boolean advance() {
-            while (nextSize <= MOST_PLACES) {
+            // Each step leaves a mask or a size behind, and there are 340 masks in all.
+            for (int step = 0; step < MOST_STEPS && nextSize <= MOST_PLACES; step++) {
                 if (nextMask >= 1 << nextSize || !leaves.allows(nextSize)) {
                     nextSize += 2;
                     nextMask = 0;
