@@ -652,7 +652,7 @@ public final class QuireDesk {
     private static final class Lays {
         private static final int MOST_STEPS = 1000;
 
-        private final Leaves leaves;
+        final Leaves leaves = new Leaves();
         private int first = 0;
         /** The leaf that ends an open lay; NONE: all PLACES are laid. */
         private int last = NONE;
@@ -667,10 +667,6 @@ public final class QuireDesk {
         int things = 0;
         int ghosts = 0;
         int ahead = ANY;
-
-        Lays(Leaves of) {
-            leaves = of;
-        }
 
         void beginWhole(int leaf) {
             beginOpen(leaf, NONE);
@@ -773,15 +769,16 @@ public final class QuireDesk {
         /** More GHOSTS than there can be, and less than a load weighs in bests. */
         private static final int FAR = 1000;
         private static final int LOAD = 1024;
+        /** A desk is promised for 512 calls; the loads are numbered anew far behind them. */
+        private static final int MOST_LOADS = 1000;
         /** Lays of which all that counts is alike, with how many they are, in one number. */
         private static final int GROUP_LAYS = 255;
         private static final int GROUP_STARTS = 1 << 16;
         private static final int GROUP_ENDS = 1 << 17;
         private static final int SORTS = 4 * (MOST_GHOSTS + 1) * 4;
 
-        private final Leaves leaves = new Leaves();
-        private final Lays lays = new Lays(leaves);
-        private final Lays steps = new Lays(leaves);
+        private final Lays lays = new Lays();
+        private final Leaves leaves = lays.leaves;
         private Row loaded = null;
         /** How many times a ROW was loaded: what bests has of another load counts no more. */
         private int loads = 0;
@@ -804,10 +801,21 @@ public final class QuireDesk {
             loaded = row;
             row.changed = false;
             loads++;
+            if (loads > MOST_LOADS) {
+                forgetLoads();
+            }
             leaves.load(row);
             for (int leaf = 0; leaf < leaves.count; leaf++) {
                 groupLays(leaf);
             }
+        }
+
+        /** If the number of the load grew beyond what bests can hold, no state would be known again. */
+        private void forgetLoads() {
+            for (int state = 0; state < STATES; state++) {
+                bests[state] = 0;
+            }
+            loads = 1;
         }
 
         /** How many FOLDINGS AGREE; the other calls want that this has been asked. */
@@ -945,8 +953,8 @@ public final class QuireDesk {
             for (int q = 0; q < MOST_QUIRES && leaf < leaves.count; q++) {
                 boolean found = false;
                 int least = leastFrom(q, leaf, ghosts, joined);
-                steps.beginWhole(leaf);
-                for (int i = 0; i < MOST_LAYS && !found && steps.advance(); i++) {
+                lays.beginWhole(leaf);
+                for (int i = 0; i < MOST_LAYS && !found && lays.advance(); i++) {
                     long n = countBehind(q, leaf, ghosts, joined);
                     if (fewest && n > 0 && leastBehind(q, leaf, ghosts) != least) {
                         n = 0;
@@ -958,38 +966,38 @@ public final class QuireDesk {
                     return false;
                 }
                 choose(q);
-                leaf += steps.things;
-                ghosts += steps.ghosts;
-                joined = steps.endsWithLeaf();
+                leaf += lays.things;
+                ghosts += lays.ghosts;
+                joined = lays.endsWithLeaf();
             }
             return leaf >= leaves.count;
         }
 
-        /** How many FOLDINGS go on with the lay that steps is at. */
+        /** How many FOLDINGS go on with the lay that is at hand. */
         private long countBehind(int q, int leaf, int ghosts, boolean joined) {
-            if (steps.ahead != ANY && steps.ahead != leaf + ghosts) {
+            if (lays.ahead != ANY && lays.ahead != leaf + ghosts) {
                 return 0;
             }
-            if (steps.things > leaves.reach(leaf, q)) {
+            if (lays.things > leaves.reach(leaf, q)) {
                 return 0;
             }
-            if (joined && steps.startsWithLeaf() && leaves.clashes(leaf)) {
+            if (joined && lays.startsWithLeaf() && leaves.clashes(leaf)) {
                 return 0;
             }
-            int lost = ghosts + steps.ghosts;
-            return countFrom(q + 1, leaf + steps.things, lost, steps.endsWithLeaf());
+            int lost = ghosts + lays.ghosts;
+            return countFrom(q + 1, leaf + lays.things, lost, lays.endsWithLeaf());
         }
 
-        /** The fewest GHOSTS from QUIRE q on with the lay that steps is at. */
+        /** The fewest GHOSTS from QUIRE q on with the lay that is at hand. */
         private int leastBehind(int q, int leaf, int ghosts) {
-            int lost = ghosts + steps.ghosts;
-            int more = leastFrom(q + 1, leaf + steps.things, lost, steps.endsWithLeaf());
-            return steps.ghosts + more;
+            int lost = ghosts + lays.ghosts;
+            int more = leastFrom(q + 1, leaf + lays.things, lost, lays.endsWithLeaf());
+            return lays.ghosts + more;
         }
 
         private void choose(int q) {
-            chosenSizes[q] = steps.size;
-            chosenMasks[q] = steps.mask;
+            chosenSizes[q] = lays.size;
+            chosenMasks[q] = lays.mask;
             chosen = q + 1;
         }
 
@@ -1017,8 +1025,8 @@ public final class QuireDesk {
         /** Whether there is a BEGINNING whose last leaf is that. */
         private boolean opensUpTo(int last) {
             for (int first = last; first >= 0 && first > last - MOST_PLACES; first--) {
-                steps.beginOpen(first, last);
-                for (int i = 0; i < STATES && steps.advance(); i++) {
+                lays.beginOpen(first, last);
+                for (int i = 0; i < STATES && lays.advance(); i++) {
                     if (wasReached(first)) {
                         return true;
                     }
@@ -1027,14 +1035,14 @@ public final class QuireDesk {
             return false;
         }
 
-        /** Whether QUIRES that agree come up to a leaf, and the lay that steps is at agrees. */
+        /** Whether QUIRES that agree come up to a leaf, and the lay that is at hand fits there. */
         private boolean wasReached(int leaf) {
-            boolean cut = steps.startsWithLeaf() && leaves.clashes(leaf);
+            boolean cut = lays.startsWithLeaf() && leaves.clashes(leaf);
             for (int q = 0; q < MOST_QUIRES; q++) {
-                if (leaves.reach(leaf, q) >= steps.things) {
+                if (leaves.reach(leaf, q) >= lays.things) {
                     for (int half = 0; half < HALVES; half++) {
                         int places = leaf + 2 * half + (leaf & 1);
-                        if ((steps.ahead == ANY || steps.ahead == places)
+                        if ((lays.ahead == ANY || lays.ahead == places)
                                 && wasIn(q, leaf, half, cut)) {
                             return true;
                         }

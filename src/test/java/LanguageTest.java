@@ -70,6 +70,10 @@ public final class LanguageTest {
         for (Class<?> c : all) {
             Check.is("static: " + c, Modifier.isStatic(c.getModifiers()), true);
             Check.is("no classes in it: " + c, c.getDeclaredClasses().length, 0);
+            for (Constructor<?> k : c.getDeclaredConstructors()) {
+                // What a constructor is given would be a part of the object that is being made.
+                Check.is("made of nothing: " + c, k.getParameterCount(), 0);
+            }
             int fields = 0;
             for (Field f : c.getDeclaredFields()) {
                 fields += Modifier.isStatic(f.getModifiers()) ? 0 : 1;

@@ -19,6 +19,8 @@ public final class RobustTest {
                 asNew(used(seed, 200), row);
             }
         }
+        usedOnAndOn();
+        betweenTwoRows();
         room();
         Check.end();
     }
@@ -100,6 +102,45 @@ public final class RobustTest {
         if (fewest != QuireDesk.NONE) {
             Check.is("formula as new", Check.formula(d), Check.formula(fresh));
         }
+    }
+
+    /** Far behind its 512 calls a desk still ends each of them, and in its usual time. */
+    private static void usedOnAndOn() {
+        QuireDesk d = new QuireDesk();
+        QuireDesk fresh = new QuireDesk();
+        for (int i = 0; i < 30; i++) {
+            d.put(0, i, 1);
+            fresh.put(0, i, 1);
+        }
+        long ways = fresh.ways(0);
+        for (int call = 0; call < 2200000; call++) {
+            d.ways(1 + call % 2);
+        }
+        Check.is("ways of thirty", d.ways(0), ways);
+        Check.is("why of thirty", d.why(0), QuireDesk.NONE);
+    }
+
+    /** What is known of one ROW is never taken for that of another, however many lie between. */
+    private static void betweenTwoRows() {
+        long[] due = {leaves(new QuireDesk(), 0, 2).ways(0), leaves(new QuireDesk(), 0, 3).ways(0)};
+        Check.is("they are unlike", due[0] != due[1], true);
+        for (int between = 0; between < 1200; between += between < 480 ? 40 : 1) {
+            QuireDesk d = leaves(leaves(new QuireDesk(), 0, 2), 1, 3);
+            Check.is("ways of the one", d.ways(0), due[0]);
+            for (int k = 0; k < between; k++) {
+                d.ways(2 + k % 2);
+            }
+            Check.is("ways of the other behind " + between, d.ways(1), due[1]);
+        }
+    }
+
+    /** Twelve leaves in a ROW, with one NUMBER that is known. */
+    private static QuireDesk leaves(QuireDesk d, int row, int number) {
+        for (int i = 0; i < 12; i++) {
+            d.put(row, i, 1);
+        }
+        d.mark(row, 11, 1, number);
+        return d;
     }
 
     /** A desk is small beside the room of 600,000 objects and 7.3 million elements. */
